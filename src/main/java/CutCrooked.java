@@ -1034,12 +1034,12 @@ public final class CutCrooked {
 
         /** Puts it right; all four corners together are four times AT, whatever the slopes. */
         int straighten() {
-            int lost = CORNERS * slope();
-            at = leastCorner();
+            int off = slope();
+            at -= off;
             up = 0;
             side = 0;
-            waste += lost;
-            return lost;
+            waste += CORNERS * off;
+            return CORNERS * off;
         }
 
         /** A cut, if the end that is left by it is long enough (or any end is); else nothing is done. */

@@ -125,10 +125,13 @@ public final class ActsTest {
         x.cut(1);
         x.right();
         x.cut(1);
+        x.cut(0);
         x.row(0, 1, 7);
         x.see(5, 3);
         x.week(5);
-        x.book(1, 20);
+        x.book(1, x.would(1, 1));
+        x.book(0, 999);
+        DUE.is("looked()", x.looked(), 1);
         Due.feed(x, "thin");
         DUE.is("image()", x.image(), 2);
         int[] before = told(x);

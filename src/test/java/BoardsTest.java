@@ -69,6 +69,13 @@ public final class BoardsTest {
         DUE.is("the one that held holds", x.told(6), 7);
         DUE.is("count(4)", x.count(4), 0);
         DUE.is("count(1)", x.count(1), 1);
+        String wide = "slip 9 c=1";
+        for (int i = 0; i < 9; i++) {
+            wide += "&c=1|c=1";
+        }
+        for (int i = 0; i < 9; i++) {
+            DUE.is("faults leave nothing", Due.board(x, wide + ";slip 1 ?"), -100);
+        }
         DUE.is("board 1", Due.board(x, "end 0;thin 9;end 99;thin 0"), 1);
         DUE.is("the last thin", x.told(6), 0);
         DUE.is("the last end", x.told(7), 99);
@@ -260,10 +267,13 @@ public final class BoardsTest {
         DUE.is("of(0, -1)", x.of(0, -1), -10001);
         DUE.is("of(1, 0)", x.of(1, 0), -10001);
         DUE.is("of(-1, 0)", x.of(-1, 0), -10001);
-        for (int kind = 0; kind < 5; kind++) {
+        for (int kind = 1; kind < 6; kind++) {
             x.cutter(kind, 0, 0, 0, 1);
-            DUE.is("of kind", x.of(kind + 1, 0), kind);
+            DUE.is("of kind", x.of(kind, 0), kind);
         }
+        CutCrooked y = new CutCrooked();
+        y.cutter(0, 0, 0, 0, 1);
+        DUE.is("of kind", y.of(0, 0), 0);
     }
 
     private static void promise6() {
