@@ -4,6 +4,7 @@ public final class AskedEdgesTest {
 
     public static void main(String[] args) {
         endsWithTheFirstThatCanNotBeMade();
+        endsSoonerByRightLaterByAGuide();
         onFrom0To40();
         overAndOver();
         onOfOne();
@@ -82,6 +83,32 @@ public final class AskedEdgesTest {
         DUE.is("though another could", z.would(1, 0), 20);
         DUE.is("when(20, 0)", z.when(20, 0), -5);
         DUE.is("guide(40)", z.guide(40), 0);
+    }
+
+    /** "A CUT that can not be made ends what goes on": put RIGHT fewer can be made, by a guide more (promises 20, 21). */
+    private static void endsSoonerByRightLaterByAGuide() {
+        DUE.part("ends sooner, later");
+        // As it lies the first of four is not GOOD; put RIGHT all are, but from 62 a fourth can not be made.
+        int[][] whens = {{62, 3, 0, 3}, {62, 4, -5, -5}, {62, 20, -5, -5}, {63, 3, 0, 3}, {63, 4, 0, 4}, {63, 20, 0, 4}};
+        for (int[] w : whens) {
+            CutCrooked x = new CutCrooked();
+            x.cutter(1, 0, 0, 0, 11);
+            x.loaf(w[0] + 11);
+            Due.board(x, "slip 9 s=0");
+            x.cut(0);
+            DUE.is("told(1)", x.told(1), w[0]);
+            DUE.is("told(2)", x.told(2), 9);
+            DUE.is("on(" + w[1] + ", 5) from " + w[0], x.on(w[1], 5), Math.min(w[1], 4) - 1);
+            DUE.is("when(" + w[1] + ", 0) from " + w[0], x.when(w[1], 0), w[2]);
+            DUE.is("when(" + w[1] + ", 1) from " + w[0], x.when(w[1], 1), w[3]);
+        }
+        int[][] guides = {{93, 0}, {94, 1}, {98, 1}, {99, 0}, {113, 0}, {114, 1}, {118, 1}, {119, 0}};
+        for (int[] g : guides) {
+            CutCrooked x = new CutCrooked();
+            x.cutter(0, 0, 9, 0, 20);
+            x.loaf(g[0]);
+            DUE.is("guide(40) from " + g[0], x.guide(40), g[1]);
+        }
     }
 
     /** "ON n CUTS (0 .. 40)" (promises 14, 15). */

@@ -23,6 +23,7 @@ public final class CutsEdgesTest {
         endByTheLeastCorner();
         endOf0();
         endInAGame();
+        rightByEnd();
         nothingIsDoneElse();
         eatenAndSlicesAreMore();
         DUE.end();
@@ -486,6 +487,27 @@ public final class CutsEdgesTest {
             x.loaf(game[0]);
             DUE.is("game(0, 1, 1, 0) from " + game[0], x.game(0, 1, 1, 0), game[1]);
             DUE.is("game(0, 1, 1, 1) from " + game[0], x.game(0, 1, 1, 1), game[2]);
+        }
+    }
+
+    /** "STATE: the least CORNER is below END" (promise 11). */
+    private static void rightByEnd() {
+        DUE.part("right by END");
+        int[][] slopes = {{0, 0}, {9, 0}, {-9, 0}, {0, 9}, {0, -9}, {5, -4}, {-5, 4}};
+        for (int[] slope : slopes) {
+            int off = Math.abs(slope[0]) + Math.abs(slope[1]);
+            for (int end = 39; end <= 41; end++) {
+                CutCrooked x = lying(0, 0, 0, 1, 40 + off, slope[0], slope[1]);
+                Due.board(x, "end " + end);
+                boolean can = end <= 40;
+                DUE.is("right() by END " + end, x.right(), can ? 4 * off : -3);
+                DUE.is("told(1)", x.told(1), can ? 40 : 40 + off);
+                DUE.is("told(2)", x.told(2), can ? 0 : slope[0]);
+                DUE.is("told(3)", x.told(3), can ? 0 : slope[1]);
+                DUE.is("told(4)", x.told(4), 1);
+                DUE.is("told(5)", x.told(5), can ? 4 * off : 0);
+                DUE.is("right() again", x.right(), can ? 0 : -3);
+            }
         }
     }
 
